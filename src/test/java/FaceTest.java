@@ -28,7 +28,7 @@ public final class FaceTest {
         if (!right) {
             System.out.println("the face is " + got + ", due is " + due);
         }
-        if (Modifier.toString(SigmaDesk.class.getModifiers()).equals("public final") == false) {
+        if (!Modifier.toString(SigmaDesk.class.getModifiers()).equals("public final")) {
             System.out.println("the class is not public final");
             right = false;
         }

@@ -312,6 +312,21 @@ public final class PromiseTest {
         due("7 the statement has left the stack", x.discard(), false);
         due("7 accept() again", x.accept(), BAD);
         fewerLeavesAfterMore();
+        sameStatementAgain();
+    }
+
+    private static void sameStatementAgain() {
+        SigmaDesk x = single();
+        x.commit(5);
+        x.respond(1);
+        x.save();
+        x.leaf(4, pow(4, 7));
+        due("7 accept() of the same statement", x.accept(), 1);
+        x.tell(0, 7);
+        due("7 nothing is committed", x.respond(2), ORDER);
+        x.commit(5);
+        x.respond(2);
+        due("7 nothing is saved", x.extract(), ORDER);
     }
 
     private static void fewerLeavesAfterMore() {
@@ -513,6 +528,8 @@ public final class PromiseTest {
         x.change(0, 2, c);
         due("12 verify()", x.verify(), true);
         due("12 challenge()", x.challenge(), 5);
+        due("12 respond() to the drawn challenge", x.respond(c), 0);
+        dueParts("12 OR", x, 1, pow(9, nonce), BAD, 0, nonce);
         x.commit(6);
         x.respond(5);
         due("12 a new commitment takes the left side", x.part(1, 2), c);
@@ -547,6 +564,11 @@ public final class PromiseTest {
                 simulateOrAnd(c, seed);
                 simulateAndOr(c, seed);
             }
+            // Just the challenge that is drawn for the left side: 0 is left for the right one.
+            state = seed;
+            int drawn = draw();
+            simulateOrAnd(drawn, seed);
+            simulateAndOr(drawn, seed);
         }
     }
 
@@ -708,6 +730,13 @@ public final class PromiseTest {
             due("17 none on both sides", x.challenge(), ORDER);
             x.change(0, 2, 0);
             due("17 none on the right", x.challenge(), ORDER);
+            x.change(0, 2, 9);
+            x.change(1, 2, 9);
+            due("17 9 on the left, none on the right", x.challenge(), ORDER);
+            x.change(0, 2, 8);
+            x.change(2, 2, 9);
+            x.change(3, 2, 9);
+            due("17 none on the left, 9 on the right", x.challenge(), ORDER);
         }
     }
 
@@ -799,6 +828,7 @@ public final class PromiseTest {
         }
         secondCommitmentDiffers();
         tellsByExtracting();
+        eightLeaves();
         for (int x1 : new int[] {0, 1, 2501, Q - 1}) {
             extractFromParts(x1);
         }
@@ -854,6 +884,26 @@ public final class PromiseTest {
         due("21 witness(0)", x.witness(0), 7);
         due("21 witness(1)", x.witness(1), 11);
         due("21 commit()", x.commit(1), 0);
+    }
+
+    private static void eightLeaves() {
+        SigmaDesk x = new SigmaDesk();
+        x.equal(4, pow(4, 1), 9, pow(9, 1));
+        for (int i = 2; i <= 8; i++) {
+            x.equal(4, pow(4, i), 9, pow(9, i));
+            x.join(true);
+        }
+        x.accept();
+        x.simulate(20, 1);
+        x.save();
+        for (int i = 0; i < 8; i++) {
+            x.change(i, 2, 25);
+            x.change(i, 3, modQ(x.part(i, 3) + 5 * (i + 1)));
+        }
+        due("21 extract() of eight leaves", x.extract(), 8);
+        for (int i = 0; i < 8; i++) {
+            due("21 witness(" + i + ")", x.witness(i), i + 1);
+        }
     }
 
     private static void extractFromParts(int witness) {

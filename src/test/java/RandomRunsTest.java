@@ -6,7 +6,8 @@ import java.util.Random;
 /** Random runs of calls: each answer is compared with that of a second, plain writing of the document. */
 public final class RandomRunsTest {
     private static final int RUNS = 3000;
-    private static final int CALLS = 512;
+    private static final int MOST_CALLS = 512;
+    private static final int LONGEST_STEP = 30;
     private static final int[] ODD = {-1, 0, 1, 2, 3, 8, 5002, 5003, 10006, 10007,
         Integer.MIN_VALUE, Integer.MAX_VALUE};
     private static final int[] BASES = {4, 9, 16, 25, 3000 * 3000 % 10007};
@@ -14,15 +15,17 @@ public final class RandomRunsTest {
     public static void main(String[] args) {
         for (int run = 0; run < RUNS; run++) {
             Run r = new Run(run);
-            for (int i = 0; i < CALLS; i++) {
-                if (!r.call()) {
-                    System.out.println("run " + run + ": " + String.join("; ", r.calls));
-                    System.exit(1);
-                }
+            boolean right = r.grow(1 + run % 8);
+            while (right && r.calls.size() < MOST_CALLS - LONGEST_STEP) {
+                right = r.step();
+            }
+            if (!right) {
+                System.out.println("run " + run + ": " + String.join("; ", r.calls));
+                System.exit(1);
             }
         }
         Run.dueSomeOfEach();
-        System.out.println(RUNS + " runs of " + CALLS + " calls answered as due");
+        System.out.println(RUNS + " runs answered as due");
     }
 
     /** One object and its model, given the same calls. */
@@ -64,13 +67,31 @@ public final class RandomRunsTest {
             return pick(random.nextInt(5003));
         }
 
-        boolean call() {
-            // Building is rarer than proving, or no tree would live long; an accept comes readily.
-            int kind = random.nextInt(100);
-            if (kind < 12) {
+        /** One call, or a few that belong together and would seldom meet by chance. */
+        boolean step() {
+            int kind = random.nextInt(200);
+            if (kind == 0) {
+                return grow(1 + random.nextInt(8));
+            }
+            if (kind < 20) {
                 return build(random.nextInt(6));
             }
+            if (kind < 40) {
+                return use(9) && use(10) && use(18) && use(10) && use(19);
+            }
             return use(6 + random.nextInt(14));
+        }
+
+        /** A tree of about so many leaves, joined in random order, if the stack was empty. */
+        boolean grow(int leaves) {
+            boolean right = true;
+            for (int i = 0; right && i < leaves; i++) {
+                right = build(1 + random.nextInt(2)) && (random.nextBoolean() || build(3));
+            }
+            for (int i = 0; right && i < 6 && model.stack.size() > 1; i++) {
+                right = build(3);
+            }
+            return right && build(5);
         }
 
         private boolean build(int kind) {
@@ -107,7 +128,7 @@ public final class RandomRunsTest {
             int what = pick(random.nextInt(4));
             switch (kind) {
                 case 6:
-                    int x = pick(random.nextInt(8));
+                    int x = pick(random.nextInt(3) == 0 ? random.nextInt(8) : model.smallWitness(leaf));
                     return same(6, "tell(" + leaf + ", " + x + ")", desk.tell(leaf, x), model.tell(leaf, x));
                 case 7:
                     return same(7, "witness(" + leaf + ")", desk.witness(leaf), model.witness(leaf));
@@ -293,6 +314,15 @@ public final class RandomRunsTest {
             }
             node.witness = x;
             return true;
+        }
+
+        /** A witness below 8, or 0 when there is none such. */
+        int smallWitness(int leaf) {
+            int x = 0;
+            while (at(leaf) != null && x < 8 && pow(at(leaf).pairs[0], x) != at(leaf).pairs[1]) {
+                x++;
+            }
+            return x % 8;
         }
 
         int witness(int leaf) {
