@@ -1,20 +1,5 @@
-import java.math.BigInteger;
-
-/** One method for each promise of the document; what is due is reckoned here with BigInteger. */
-public final class PromiseTest {
-    private static final int P = 10007;
-    private static final int Q = 5003;
-    private static final int BAD = -1;
-    private static final int NONE = -2;
-    private static final int UNKNOWN = -3;
-    private static final int ORDER = -4;
-    private static final int[] NO_EXPONENTS = {-1, Q, Q + 1, Integer.MIN_VALUE, Integer.MAX_VALUE};
-    private static final int[] NO_ELEMENTS =
-        {0, 5, -4, P - 1, P, P + 4, Integer.MIN_VALUE, Integer.MAX_VALUE};
-
-    private static int wrong = 0;
-    private static int state = 0;
-
+/** One method for each promise of the document. */
+public final class PromiseTest extends Check {
     public static void main(String[] args) {
         constants();
         promise1();
@@ -38,75 +23,7 @@ public final class PromiseTest {
         promise19();
         promise20();
         promise21();
-        System.out.println(wrong == 0 ? "all answers are as due" : wrong + " answers are not as due");
-        if (wrong != 0) {
-            System.exit(1);
-        }
-    }
-
-    private static void due(String call, long got, long want) {
-        if (got != want) {
-            wrong++;
-            System.out.println(call + " answered " + got + ", due is " + want);
-        }
-    }
-
-    private static void due(String call, boolean got, boolean want) {
-        due(call, got ? 1 : 0, want ? 1 : 0);
-    }
-
-    private static int pow(int b, int e) {
-        return BigInteger.valueOf(b).modPow(BigInteger.valueOf(e), BigInteger.valueOf(P)).intValue();
-    }
-
-    private static int product(int a, int b) {
-        return (int) ((long) a * b % P);
-    }
-
-    private static int modQ(long n) {
-        return (int) Math.floorMod(n, (long) Q);
-    }
-
-    private static int draw() {
-        state = state * 1103515245 + 12345;
-        return (int) (((state & 0xffffffffL) / 256) % Q);
-    }
-
-    private static int simulated(int b, int y, int c, int response) {
-        return product(pow(b, response), pow(y, Q - c));
-    }
-
-    private static int hashOf(int... numbers) {
-        int h = 17;
-        for (int n : numbers) {
-            h = 31 * h + n;
-        }
-        return (h & 0x7fffffff) % Q;
-    }
-
-    private static void dueParts(String name, SigmaDesk x, int leaf, int... want) {
-        for (int what = 0; what < 4; what++) {
-            due(name + " part(" + leaf + ", " + what + ")", x.part(leaf, what), want[what]);
-        }
-    }
-
-    /** A tree of the one leaf 4^7, told. */
-    private static SigmaDesk single() {
-        SigmaDesk x = new SigmaDesk();
-        x.leaf(4, pow(4, 7));
-        x.accept();
-        x.tell(0, 7);
-        return x;
-    }
-
-    /** A tree of two leaves, 4^7 and 9^11, none told. */
-    private static SigmaDesk two(boolean all) {
-        SigmaDesk x = new SigmaDesk();
-        x.leaf(4, pow(4, 7));
-        x.leaf(9, pow(9, 11));
-        x.join(all);
-        x.accept();
-        return x;
+        finish();
     }
 
     private static void constants() {
@@ -409,18 +326,6 @@ public final class PromiseTest {
         due("10 a leaf", x.known(), true);
     }
 
-    /** Leaves 4^1, 9^2 and the pairs 16^3, 25^3: the first two joined, then the third. */
-    private static SigmaDesk three(boolean inner, boolean outer) {
-        SigmaDesk x = new SigmaDesk();
-        x.leaf(4, pow(4, 1));
-        x.leaf(9, pow(9, 2));
-        x.join(inner);
-        x.equal(16, pow(16, 3), 25, pow(25, 3));
-        x.join(outer);
-        x.accept();
-        return x;
-    }
-
     private static void promise11() {
         for (int seed : new int[] {0, 1, 42, -9, Integer.MIN_VALUE, Integer.MAX_VALUE}) {
             commitAnd(seed);
@@ -447,7 +352,7 @@ public final class PromiseTest {
             x.change(i, 3, 78);
         }
         due("11 commit(" + seed + ")", x.commit(seed), 0);
-        state = seed;
+        seed(seed);
         dueParts("11 AND", x, 0, pow(4, draw()), BAD, 0, 0);
         dueParts("11 AND", x, 1, pow(9, draw()), BAD, 0, 0);
         int nonce = draw();
@@ -463,7 +368,7 @@ public final class PromiseTest {
             x.tell(1, 11);
         }
         due("11 commit(" + seed + ")", x.commit(seed), 0);
-        state = seed;
+        seed(seed);
         int c = draw();
         int one = draw();
         int other = draw();
@@ -483,7 +388,7 @@ public final class PromiseTest {
             due("12 BAD before ORDER", x.respond(e), BAD);
         }
         x.commit(3);
-        state = 3;
+        seed(3);
         int nonce = draw();
         for (int e : NO_EXPONENTS) {
             due("12 respond(" + e + ")", x.respond(e), BAD);
@@ -514,7 +419,7 @@ public final class PromiseTest {
         SigmaDesk x = two(false);
         x.tell(1, 11);
         x.commit(6);
-        state = 6;
+        seed(6);
         int c = draw();
         int response = draw();
         int nonce = draw();
@@ -540,7 +445,7 @@ public final class PromiseTest {
         x.tell(0, 1);
         x.tell(2, 3);
         x.commit(10);
-        state = 10;
+        seed(10);
         int c = draw();
         int first = draw();
         int second = draw();
@@ -565,7 +470,7 @@ public final class PromiseTest {
                 simulateAndOr(c, seed);
             }
             // Just the challenge that is drawn for the left side: 0 is left for the right one.
-            state = seed;
+            seed(seed);
             int drawn = draw();
             simulateOrAnd(drawn, seed);
             simulateAndOr(drawn, seed);
@@ -575,7 +480,7 @@ public final class PromiseTest {
     private static void simulateOrAnd(int c, int seed) {
         SigmaDesk x = three(false, true);
         due("13 simulate()", x.simulate(c, seed), 0);
-        state = seed;
+        seed(seed);
         int d = draw();
         int r = draw();
         dueParts("13", x, 0, simulated(4, pow(4, 1), d, r), BAD, d, r);
@@ -592,7 +497,7 @@ public final class PromiseTest {
     private static void simulateAndOr(int c, int seed) {
         SigmaDesk x = three(true, false);
         due("13 simulate()", x.simulate(c, seed), 0);
-        state = seed;
+        seed(seed);
         int d = draw();
         int r = draw();
         dueParts("13", x, 0, simulated(4, pow(4, 1), d, r), BAD, d, r);
@@ -615,7 +520,7 @@ public final class PromiseTest {
         due("14 it changes nothing", x.challenge(), 2);
         x.tell(1, 11);
         for (int seed : new int[] {0, 5, -5, Integer.MIN_VALUE, Integer.MAX_VALUE}) {
-            state = seed;
+            seed(seed);
             int first = draw();
             int second = draw();
             int h = hashOf(4, pow(4, 7), pow(4, first), 9, pow(9, 11), pow(9, second));
@@ -755,7 +660,7 @@ public final class PromiseTest {
         dueParts("18 at first", x, 0, 0, BAD, 0, 0);
         dueParts("18 at first", x, 2, 0, 0, 0, 0);
         x.simulate(9, 12);
-        state = 12;
+        seed(12);
         int r = draw();
         dueParts("18", x, 0, simulated(4, pow(4, 1), 9, r), BAD, 9, r);
         draw();
