@@ -59,6 +59,7 @@ public final class EdgesOfPromisesTest extends Check {
         extractPresentNotAccepted();
         extractOtherCommitments();
         extractHowMany();
+        extractTwoPairs();
         extractDivides();
         finish();
     }
@@ -1025,6 +1026,29 @@ public final class EdgesOfPromisesTest extends Check {
                 due("21 witness(" + i + ") of " + which, x.witness(i), told ? i + 1 : UNKNOWN);
             }
             due("21 known() of " + which, x.known(), true);
+        }
+    }
+
+    // 21: "for each leaf whose challenges in both are different": with two pairs too, in an AND all of them
+    private static void extractTwoPairs() {
+        for (int leaves = 1; leaves <= 8; leaves++) {
+            SigmaDesk x = new SigmaDesk();
+            x.equal(4, pow(4, 1), 9, pow(9, 1));
+            for (int i = 2; i <= leaves; i++) {
+                x.equal(4, pow(4, i), 9, pow(9, i));
+                x.join(true);
+            }
+            x.accept();
+            for (int i = 0; i < leaves; i++) {
+                x.tell(i, i + 1);
+            }
+            x.commit(leaves);
+            x.respond(0);
+            x.save();
+            due("21 extract() of the same challenge", x.extract(), 0);
+            x.respond(5002);
+            due("21 extract() of " + leaves + " with two pairs", x.extract(), leaves);
+            due("21 the last witness", x.witness(leaves - 1), leaves);
         }
     }
 

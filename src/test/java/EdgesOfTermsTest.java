@@ -125,6 +125,21 @@ public final class EdgesOfTermsTest extends Check {
             count += element ? 1 : 0;
         }
         due("how many elements", count, Q);
+        nothingOutsideIsAnElement();
+    }
+
+    /** Numbers from all of the int range, many of them like an element modulo P. */
+    private static void nothingOutsideIsAnElement() {
+        SigmaDesk x = null;
+        for (int i = 0; i < 400 * 1000; i++) {
+            if (i % 400 == 0) {
+                x = new SigmaDesk();
+            }
+            int e = Integer.MIN_VALUE + i * 10737;
+            if (e < 1 || e > 10006) {
+                due("no element " + e, x.power(e, 1), BAD);
+            }
+        }
     }
 
     // "their products and powers are reckoned modulo P"
@@ -398,6 +413,13 @@ public final class EdgesOfTermsTest extends Check {
                 x.change(2, 2, sides >> 1);
                 String name = (all ? "AND" : "OR") + ", sides without a challenge: " + sides;
                 due(name, x.challenge(), sides == 0 ? 0 : ORDER);
+                // The side that has one has 9, not 0.
+                int with = sides == 1 ? 2 : 0;
+                x.change(with, 2, 9);
+                x.change(with + 1, 2, 9);
+                due(name + ", 9 on the other", x.challenge(), sides == 0 && !all ? 9 : ORDER);
+                x.change(with, 2, sides == 3 ? 1 : 0);
+                x.change(with + 1, 2, 0);
                 // Neither the sum with -1 nor any other number gives it one again.
                 for (int c : new int[] {1, 2, 5002}) {
                     x.change(4, 2, c);
@@ -694,6 +716,28 @@ public final class EdgesOfTermsTest extends Check {
                 due(name + ", verify()", x.verify(), true);
             }
         }
+        respondingOrAfterOtherCalls();
+    }
+
+    /** What was drawn, and which side is the real one, is settled when it is committed. */
+    private static void respondingOrAfterOtherCalls() {
+        SigmaDesk x = two(false);
+        x.tell(1, 11);
+        x.commit(seedDrawing(100));
+        x.change(0, 2, 200);
+        x.respond(50);
+        due("50 less 100, another challenge standing there", x.part(1, 2), Q - 50);
+        due("50 less 100, it stays there", x.part(0, 2), 200);
+        x.change(0, 2, 100);
+        x.tell(0, 7);
+        x.respond(150);
+        due("150 less 100, the left side told since", x.part(1, 2), 50);
+        due("150 less 100, the left side told since", x.part(0, 2), 100);
+        due("150 less 100, verify()", x.verify(), true);
+        x.commit(seedDrawing(100));
+        x.respond(150);
+        due("150 less 100, committed with the left side", x.part(0, 2), 50);
+        due("150 less 100, committed with the left side", x.part(1, 2), 100);
     }
 
     // "h is 17; for each leaf in order, for each of its pairs: h becomes 31 h + b, 31 h + y, 31 h + the
