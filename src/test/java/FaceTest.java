@@ -32,7 +32,7 @@ public final class FaceTest {
             System.out.println("the class is not public final");
             right = false;
         }
-        if (!nestedClassesAreStatic() || !staticFieldsAreFinal()) {
+        if (!nestedClassesAreStatic() || !staticFieldsAreFinal() || !publicNamesAreUsedOnce()) {
             right = false;
         }
         if (!right) {
@@ -77,6 +77,22 @@ public final class FaceTest {
             if (Modifier.isStatic(f.getModifiers()) && !Modifier.isFinal(f.getModifiers())) {
                 System.out.println("the static field " + f.getName() + " is not final");
                 return false;
+            }
+        }
+        return true;
+    }
+
+    private static boolean publicNamesAreUsedOnce() {
+        Set<String> names = new TreeSet<>();
+        for (Method m : SigmaDesk.class.getMethods()) {
+            names.add(m.getName());
+        }
+        for (Class<?> c : SigmaDesk.class.getNestHost().getNestMembers()) {
+            for (Method m : c.getDeclaredMethods()) {
+                if (!Modifier.isPublic(m.getModifiers()) && names.contains(m.getName())) {
+                    System.out.println("the hidden method " + m + " bears the name of a public one");
+                    return false;
+                }
             }
         }
         return true;
